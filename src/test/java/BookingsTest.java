@@ -150,6 +150,11 @@ public final class BookingsTest {
     }
 
     private static void comeWithoutBooking() {
+        KeylessHall y = oneRoom();
+        y.book(0, 74);
+        Due.notNow("74 minutes ahead of the first booking", () -> y.come(0));
+        y.pass(73);
+        Due.notNow("1 minute ahead of it", () -> y.come(0));
         KeylessHall x = oneRoom();
         x.room(2);
         x.puzzle(1, 2, 1, NONE, 10);

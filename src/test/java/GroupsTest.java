@@ -16,6 +16,7 @@ public final class GroupsTest {
         solveRefusals();
         hints();
         leastWay();
+        longestWay();
         hintsThatCostTheHour();
         hintRefusals();
         giveUp();
@@ -229,6 +230,21 @@ public final class GroupsTest {
         x.solve(1, 3);
         x.prop(2, false);
         Due.is("what is solved is in no way", 4, x.hint(1));
+    }
+
+    private static void longestWay() {
+        KeylessHall x = new KeylessHall();
+        x.room(256);
+        for (int k = 0; k < 8; k++) {
+            x.puzzle(0, 2 << k, 1 << k, NONE, 1);
+        }
+        x.come(0);
+        for (int k = 7; k >= 0; k--) {
+            Due.is("the way of " + (k + 1) + " puzzles", k, x.hint(0));
+            x.solve(0, k);
+        }
+        Due.is("out by all eight", KeylessHall.WON, x.group(0, 0));
+        Due.is("to be reset", 255, x.state(0, 1));
     }
 
     private static void hintsThatCostTheHour() {
