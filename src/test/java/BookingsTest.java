@@ -24,14 +24,14 @@ public final class BookingsTest {
     }
 
     /** Room 0 with a gap of 15: bookings begin 75 minutes apart at least. */
-    private static KeylessHall oneRoom() {
-        KeylessHall x = new KeylessHall();
+    private static Hall oneRoom() {
+        Hall x = new Hall();
         x.room(2);
         x.puzzle(0, 2, 1, NONE, 10);
         return x;
     }
 
-    private static void bookingIs(KeylessHall x, int booking, int room, int minute, int how, int group) {
+    private static void bookingIs(Hall x, int booking, int room, int minute, int how, int group) {
         Due.is("the room of booking " + booking, room, x.booking(booking, 0));
         Due.is("the minute of booking " + booking, minute, x.booking(booking, 1));
         Due.is("how booking " + booking + " is", how, x.booking(booking, 2));
@@ -39,7 +39,7 @@ public final class BookingsTest {
     }
 
     private static void book() {
-        KeylessHall x = oneRoom();
+        Hall x = oneRoom();
         x.room(0);
         Due.is("book room 0", 0, x.book(0, 0));
         Due.is("book room 1 at the same time", 1, x.book(1, 0));
@@ -52,7 +52,7 @@ public final class BookingsTest {
     }
 
     private static void bookRefusals() {
-        KeylessHall x = oneRoom();
+        Hall x = oneRoom();
         Due.noSuch("book room -1", () -> x.book(-1, 9999));
         Due.noSuch("book room 1", () -> x.book(1, 0));
         Due.outOfRange("book minute -1", () -> x.book(0, -1));
@@ -70,7 +70,7 @@ public final class BookingsTest {
     }
 
     private static void thirtyBookings() {
-        KeylessHall x = oneRoom();
+        Hall x = oneRoom();
         for (int k = 0; k < 30; k++) {
             Due.is("booking", k, x.book(0, 75 * k));
         }
@@ -84,7 +84,7 @@ public final class BookingsTest {
     }
 
     private static void bookBesideOthers() {
-        KeylessHall x = oneRoom();
+        Hall x = oneRoom();
         x.book(0, 500);
         Due.notNow("75 minutes ahead less one", () -> x.book(0, 426));
         Due.notNow("75 minutes behind less one", () -> x.book(0, 574));
@@ -95,7 +95,7 @@ public final class BookingsTest {
     }
 
     private static void gapThatGrows() {
-        KeylessHall x = oneRoom();
+        Hall x = oneRoom();
         x.book(0, 100);
         x.book(0, 175);
         x.puzzle(0, 2, 4, NONE, 3);
@@ -108,7 +108,7 @@ public final class BookingsTest {
     }
 
     private static void cancel() {
-        KeylessHall x = oneRoom();
+        Hall x = oneRoom();
         Due.noSuch("cancel none", () -> x.cancel(0));
         x.book(0, 0);
         x.book(0, 100);
@@ -124,7 +124,7 @@ public final class BookingsTest {
     }
 
     private static void comeForBooking() {
-        KeylessHall x = oneRoom();
+        Hall x = oneRoom();
         x.room(2);
         x.puzzle(1, 2, 1, NONE, 1);
         x.book(1, 10);
@@ -141,7 +141,7 @@ public final class BookingsTest {
         bookingIs(x, 0, 1, 10, KeylessHall.USED, 1);
         x.pass(1);
         bookingIs(x, 0, 1, 10, KeylessHall.USED, 1);
-        KeylessHall y = oneRoom();
+        Hall y = oneRoom();
         y.book(0, 75);
         y.book(0, 0);
         y.come(0);
@@ -150,12 +150,12 @@ public final class BookingsTest {
     }
 
     private static void comeWithoutBooking() {
-        KeylessHall y = oneRoom();
+        Hall y = oneRoom();
         y.book(0, 74);
         Due.notNow("74 minutes ahead of the first booking", () -> y.come(0));
         y.pass(73);
         Due.notNow("1 minute ahead of it", () -> y.come(0));
-        KeylessHall x = oneRoom();
+        Hall x = oneRoom();
         x.room(2);
         x.puzzle(1, 2, 1, NONE, 10);
         x.book(1, 10);
@@ -174,7 +174,7 @@ public final class BookingsTest {
     }
 
     private static void nobodyCame() {
-        KeylessHall x = oneRoom();
+        Hall x = oneRoom();
         x.book(0, 10);
         x.book(0, 85);
         x.pass(24);
@@ -192,7 +192,7 @@ public final class BookingsTest {
     }
 
     private static void offer() {
-        KeylessHall x = oneRoom();
+        Hall x = oneRoom();
         Due.noSuch("offer of room 1", () -> x.offer(1, 9999));
         Due.noSuch("offer of room -1", () -> x.offer(-1, 0));
         Due.outOfRange("offer from -1", () -> x.offer(0, -1));
@@ -220,7 +220,7 @@ public final class BookingsTest {
     }
 
     private static void offerAtTheEnd() {
-        KeylessHall x = oneRoom();
+        Hall x = oneRoom();
         x.book(0, 4866);
         Due.is("no offer up to 4940", NONE, x.offer(0, 4866));
         Due.is("no offer from 4792 on", NONE, x.offer(0, 4792));
@@ -240,7 +240,7 @@ public final class BookingsTest {
     }
 
     private static void pass() {
-        KeylessHall x = new KeylessHall();
+        Hall x = new Hall();
         Due.outOfRange("pass(0)", () -> x.pass(0));
         Due.outOfRange("pass(-1)", () -> x.pass(-1));
         Due.outOfRange("pass(601)", () -> x.pass(601));
@@ -260,7 +260,7 @@ public final class BookingsTest {
     }
 
     private static void minuteByMinute() {
-        KeylessHall x = oneRoom();
+        Hall x = oneRoom();
         x.come(0);
         x.book(0, 75);
         x.pass(60);
@@ -279,7 +279,7 @@ public final class BookingsTest {
     }
 
     private static void bookingRefusals() {
-        KeylessHall x = oneRoom();
+        Hall x = oneRoom();
         Due.noSuch("booking of none", () -> x.booking(0, 9));
         x.book(0, 0);
         Due.outOfRange("what -1", () -> x.booking(0, -1));

@@ -27,8 +27,8 @@ public final class GroupsTest {
     }
 
     /** Room 0 with 2 at first: 0 needs 2, gives 4; 1 needs 4, gives 8; 2 needs 8, gives the way out. */
-    private static KeylessHall chain() {
-        KeylessHall x = new KeylessHall();
+    private static Hall chain() {
+        Hall x = new Hall();
         x.room(2);
         x.puzzle(0, 2, 4, 0, 1);
         x.puzzle(0, 4, 8, 1, 2);
@@ -36,7 +36,7 @@ public final class GroupsTest {
         return x;
     }
 
-    private static void groupIs(KeylessHall x, int group, int how, int held, int solved, int left) {
+    private static void groupIs(Hall x, int group, int how, int held, int solved, int left) {
         Due.is("how group " + group + " is", how, x.group(group, 0));
         Due.is("what group " + group + " holds", held, x.group(group, 2));
         Due.is("what group " + group + " solved", solved, x.group(group, 3));
@@ -44,7 +44,7 @@ public final class GroupsTest {
     }
 
     private static void come() {
-        KeylessHall x = chain();
+        Hall x = chain();
         x.room(4094);
         x.puzzle(1, 2, 1, NONE, 1);
         x.pass(7);
@@ -61,7 +61,7 @@ public final class GroupsTest {
     }
 
     private static void comeRefusals() {
-        KeylessHall x = chain();
+        Hall x = chain();
         Due.noSuch("come(-1)", () -> x.come(-1));
         Due.noSuch("come(1)", () -> x.come(1));
         x.prop(1, true);
@@ -80,7 +80,7 @@ public final class GroupsTest {
     }
 
     private static void thirtyGroups() {
-        KeylessHall x = chain();
+        Hall x = chain();
         for (int k = 0; k < 30; k++) {
             Due.is("group", k, x.come(0));
             x.giveUp(k);
@@ -93,7 +93,7 @@ public final class GroupsTest {
     }
 
     private static void comeIntoOpenRoom() {
-        KeylessHall x = new KeylessHall();
+        Hall x = new Hall();
         x.room(3);
         x.puzzle(0, 2, 4, NONE, 1);
         x.book(0, 0);
@@ -107,7 +107,7 @@ public final class GroupsTest {
     }
 
     private static void comeBehindForgotten() {
-        KeylessHall x = chain();
+        Hall x = chain();
         x.come(0);
         x.solve(0, 0);
         x.solve(0, 1);
@@ -133,7 +133,7 @@ public final class GroupsTest {
     }
 
     private static void forgottenWayOut() {
-        KeylessHall x = new KeylessHall();
+        Hall x = new Hall();
         x.room(2);
         x.puzzle(0, 2, 1, NONE, 4);
         x.come(0);
@@ -148,7 +148,7 @@ public final class GroupsTest {
     }
 
     private static void solve() {
-        KeylessHall x = chain();
+        Hall x = chain();
         x.puzzle(0, 0, 2, NONE, 1);
         x.come(0);
         Due.is("solve 0", 6, x.solve(0, 0));
@@ -163,7 +163,7 @@ public final class GroupsTest {
     }
 
     private static void solveRefusals() {
-        KeylessHall x = chain();
+        Hall x = chain();
         Due.noSuch("solve of no group", () -> x.solve(0, 0));
         x.come(0);
         Due.noSuch("solve of group 1", () -> x.solve(1, 0));
@@ -185,7 +185,7 @@ public final class GroupsTest {
     }
 
     private static void hints() {
-        KeylessHall x = chain();
+        Hall x = chain();
         x.puzzle(0, 2, 8, 5, 1);
         x.come(0);
         Due.is("the shortest way begins with 3", 3, x.hint(0));
@@ -207,7 +207,7 @@ public final class GroupsTest {
     }
 
     private static void leastWay() {
-        KeylessHall x = new KeylessHall();
+        Hall x = new Hall();
         x.room(2);
         // Two ways of two: 0 and 3 (the number 9), 1 and 2 (the number 6), which is less.
         x.puzzle(0, 2, 4, NONE, 1);
@@ -233,7 +233,7 @@ public final class GroupsTest {
     }
 
     private static void longestWay() {
-        KeylessHall x = new KeylessHall();
+        Hall x = new Hall();
         x.room(256);
         for (int k = 0; k < 8; k++) {
             x.puzzle(0, 2 << k, 1 << k, NONE, 1);
@@ -248,7 +248,7 @@ public final class GroupsTest {
     }
 
     private static void hintsThatCostTheHour() {
-        KeylessHall x = chain();
+        Hall x = chain();
         x.come(0);
         // 2 + 5 + 8 + 11 + 14 = 40
         for (int k = 0; k < 5; k++) {
@@ -282,7 +282,7 @@ public final class GroupsTest {
     }
 
     private static void hintRefusals() {
-        KeylessHall x = chain();
+        Hall x = chain();
         Due.noSuch("hint of no group", () -> x.hint(0));
         x.come(0);
         Due.noSuch("hint(-1)", () -> x.hint(-1));
@@ -293,7 +293,7 @@ public final class GroupsTest {
     }
 
     private static void giveUp() {
-        KeylessHall x = chain();
+        Hall x = chain();
         Due.noSuch("giveUp of no group", () -> x.giveUp(0));
         x.come(0);
         x.solve(0, 0);
@@ -308,7 +308,7 @@ public final class GroupsTest {
     }
 
     private static void theHour() {
-        KeylessHall x = chain();
+        Hall x = chain();
         x.pass(100);
         x.come(0);
         x.solve(0, 0);
@@ -329,7 +329,7 @@ public final class GroupsTest {
     }
 
     private static void freed() {
-        KeylessHall x = chain();
+        Hall x = chain();
         x.puzzle(0, 2, 8, 5, 1);
         x.come(0);
         Due.is("another way is left", 0, x.prop(0, true));
@@ -347,7 +347,7 @@ public final class GroupsTest {
     }
 
     private static void groupRefusals() {
-        KeylessHall x = chain();
+        Hall x = chain();
         Due.noSuch("group of no group", () -> x.group(0, 9));
         x.come(0);
         Due.outOfRange("what -1", () -> x.group(0, -1));

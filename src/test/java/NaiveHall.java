@@ -10,7 +10,7 @@ import java.util.TreeSet;
  * The document once more, in another way than the program's: with sets of the library, ends told as minutes of
  * the house, orders as texts, and offers looked for minute by minute. ModelTest holds both against each other.
  */
-public final class NaiveHall {
+public final class NaiveHall implements House {
     private static final class Puzzle {
         Set<Integer> needs;
         Set<Integer> gives;
@@ -124,6 +124,7 @@ public final class NaiveHall {
         return sum;
     }
 
+    @Override
     public int room(int things) {
         inRange(things >= 0 && things <= 4095);
         may(rooms.size() < 4);
@@ -133,6 +134,7 @@ public final class NaiveHall {
         return rooms.size() - 1;
     }
 
+    @Override
     public int puzzle(int room, int needs, int gives, int prop, int minutes) {
         Room r = at(rooms, room);
         if (prop < -1 || prop > 7) {
@@ -152,6 +154,7 @@ public final class NaiveHall {
         return r.puzzles.size() - 1;
     }
 
+    @Override
     public int prop(int prop, boolean isBroken) {
         if (prop < 0 || prop > 7) {
             throw new IndexOutOfBoundsException();
@@ -172,12 +175,14 @@ public final class NaiveHall {
         return freed;
     }
 
+    @Override
     public int had(int room, int things) {
         Room r = at(rooms, room);
         inRange(things >= 0 && things <= 4095);
         return number(closure(r, members(things)));
     }
 
+    @Override
     public boolean canBeLeft(int room) {
         return leavable(at(rooms, room));
     }
@@ -197,12 +202,14 @@ public final class NaiveHall {
         }
     }
 
+    @Override
     public int orders(int room) {
         Set<String> ends = new TreeSet<>();
         walk(at(rooms, room), "", at(rooms, room).first, ends);
         return ends.size();
     }
 
+    @Override
     public int ordersAnew(int room) {
         return orders(room);
     }
@@ -215,6 +222,7 @@ public final class NaiveHall {
         r.toReset = new TreeSet<>(g.solved);
     }
 
+    @Override
     public int come(int room) {
         Room r = at(rooms, room);
         may(r.how == 0 && leavable(r) && groups.size() < 30);
@@ -250,6 +258,7 @@ public final class NaiveHall {
         return groups.size() - 1;
     }
 
+    @Override
     public int solve(int group, int puzzle) {
         Group g = at(groups, group);
         Puzzle p = at(rooms.get(g.room).puzzles, puzzle);
@@ -303,6 +312,7 @@ public final class NaiveHall {
         return g.came + 60 - cost - now;
     }
 
+    @Override
     public int hint(int group) {
         Group g = at(groups, group);
         may(g.how == 0);
@@ -318,12 +328,14 @@ public final class NaiveHall {
         throw new AssertionError("a way that cannot be begun");
     }
 
+    @Override
     public void giveUp(int group) {
         Group g = at(groups, group);
         may(g.how == 0);
         out(g, 2);
     }
 
+    @Override
     public void reset(int room, int crew, boolean isChecked) {
         Room r = at(rooms, room);
         Crew c = at(crews, crew);
@@ -374,6 +386,7 @@ public final class NaiveHall {
         c.room = -1;
     }
 
+    @Override
     public int forget(int crew) {
         Crew c = at(crews, crew);
         may(c.room != -1 && c.puzzle != -1);
@@ -395,6 +408,7 @@ public final class NaiveHall {
         return minute >= now && minute <= 4940;
     }
 
+    @Override
     public int book(int room, int minute) {
         at(rooms, room);
         inRange(minute >= now && minute <= 4940);
@@ -406,12 +420,14 @@ public final class NaiveHall {
         return bookings.size() - 1;
     }
 
+    @Override
     public void cancel(int booking) {
         Booking b = at(bookings, booking);
         may(b.how == 0);
         b.how = 2;
     }
 
+    @Override
     public int offer(int room, int minute) {
         at(rooms, room);
         inRange(minute >= 0 && minute <= 4940);
@@ -423,6 +439,7 @@ public final class NaiveHall {
         return -1;
     }
 
+    @Override
     public int pass(int minutes) {
         inRange(minutes >= 1 && minutes <= 600);
         may(now + minutes <= 5000);
@@ -454,16 +471,19 @@ public final class NaiveHall {
         return now;
     }
 
+    @Override
     public int minute() {
         return now;
     }
 
+    @Override
     public int state(int room, int what) {
         Room r = at(rooms, room);
         inRange(what >= 0 && what <= 4);
         return new int[] {r.how, r.how == 1 ? 0 : number(r.toReset), number(r.forgotten), r.group, gap(r)}[what];
     }
 
+    @Override
     public int group(int group, int what) {
         Group g = at(groups, group);
         inRange(what >= 0 && what <= 5);
@@ -471,6 +491,7 @@ public final class NaiveHall {
             g.hints.size()}[what];
     }
 
+    @Override
     public int crew(int crew, int what) {
         Crew c = at(crews, crew);
         inRange(what >= 0 && what <= 2);
@@ -478,6 +499,7 @@ public final class NaiveHall {
         return new int[] {c.room, busy ? c.puzzle : -1, busy ? c.end - now : -1}[what];
     }
 
+    @Override
     public int booking(int booking, int what) {
         Booking b = at(bookings, booking);
         inRange(what >= 0 && what <= 3);

@@ -24,21 +24,21 @@ public final class ResetsTest {
         Due.end("ResetsTest");
     }
 
-    private static void crewIs(KeylessHall x, int crew, int room, int puzzle, int left) {
+    private static void crewIs(Hall x, int crew, int room, int puzzle, int left) {
         Due.is("the room of crew " + crew, room, x.crew(crew, 0));
         Due.is("the puzzle of crew " + crew, puzzle, x.crew(crew, 1));
         Due.is("minutes of crew " + crew, left, x.crew(crew, 2));
     }
 
-    private static void roomIs(KeylessHall x, int room, int how, int toReset, int forgotten) {
+    private static void roomIs(Hall x, int room, int how, int toReset, int forgotten) {
         Due.is("how room " + room + " is", how, x.state(room, 0));
         Due.is("what is to be reset in room " + room, toReset, x.state(room, 1));
         Due.is("what was forgotten in room " + room, forgotten, x.state(room, 2));
     }
 
     /** Room 0, that was left with puzzles 0 (3 minutes), 1 (4) and 2 (5), a chain, to be reset. */
-    private static KeylessHall dirtyChain() {
-        KeylessHall x = new KeylessHall();
+    private static Hall dirtyChain() {
+        Hall x = new Hall();
         x.room(2);
         x.puzzle(0, 2, 4, NONE, 3);
         x.puzzle(0, 4, 8, NONE, 4);
@@ -51,7 +51,7 @@ public final class ResetsTest {
     }
 
     private static void stepByStep() {
-        KeylessHall x = dirtyChain();
+        Hall x = dirtyChain();
         roomIs(x, 0, KeylessHall.DIRTY, 7, 0);
         x.pass(20);
         roomIs(x, 0, KeylessHall.DIRTY, 7, 0);
@@ -73,7 +73,7 @@ public final class ResetsTest {
         x.pass(1);
         roomIs(x, 0, KeylessHall.READY, 0, 0);
         crewIs(x, 1, NONE, NONE, NONE);
-        KeylessHall y = dirtyChain();
+        Hall y = dirtyChain();
         y.reset(0, 2, true);
         y.pass(12);
         crewIs(y, 2, 0, NONE, 5);
@@ -86,7 +86,7 @@ public final class ResetsTest {
     }
 
     private static void nothingToReset() {
-        KeylessHall x = new KeylessHall();
+        Hall x = new Hall();
         x.room(2);
         x.puzzle(0, 2, 1, NONE, 3);
         x.come(0);
@@ -105,7 +105,7 @@ public final class ResetsTest {
     }
 
     /** Tells which puzzles a crew member goes through, each of which takes 1 minute. */
-    private static String resetOrder(KeylessHall x, int room, int crew) {
+    private static String resetOrder(Hall x, int room, int crew) {
         StringBuilder order = new StringBuilder();
         x.reset(room, crew, false);
         for (int k = 0; k < 9 && x.crew(crew, 1) != NONE; k++) {
@@ -115,14 +115,14 @@ public final class ResetsTest {
         return order.toString();
     }
 
-    private static void solveInOrder(KeylessHall x, int group, int... puzzles) {
+    private static void solveInOrder(Hall x, int group, int... puzzles) {
         for (int puzzle : puzzles) {
             x.solve(group, puzzle);
         }
     }
 
     private static void orderOfPuzzles() {
-        KeylessHall x = new KeylessHall();
+        Hall x = new Hall();
         x.room(2);
         // 3 gives what 0 needs, 0 gives what 2 needs: 1, then 2 ahead of 0, 0 ahead of 3.
         x.puzzle(0, 32, 4, NONE, 1);
@@ -145,7 +145,7 @@ public final class ResetsTest {
     }
 
     private static void orderInACircle() {
-        KeylessHall x = new KeylessHall();
+        Hall x = new Hall();
         x.room(2);
         // 0 gives what 1 needs and 1 gives what 0 could not be without: a circle by way of 2.
         x.puzzle(0, 4, 8, NONE, 1);
@@ -159,7 +159,7 @@ public final class ResetsTest {
     }
 
     private static void orderWithThingsAtFirst() {
-        KeylessHall x = new KeylessHall();
+        Hall x = new Hall();
         x.room(6);
         // What 1 gives lies there at first, so that 0 needs it makes no difference.
         x.puzzle(0, 4, 8, NONE, 1);
@@ -172,7 +172,7 @@ public final class ResetsTest {
     }
 
     private static void resetRefusals() {
-        KeylessHall x = dirtyChain();
+        Hall x = dirtyChain();
         Due.noSuch("reset room -1", () -> x.reset(-1, 0, false));
         Due.noSuch("reset room 1", () -> x.reset(1, 0, false));
         Due.noSuch("reset by crew -1", () -> x.reset(0, -1, false));
@@ -193,7 +193,7 @@ public final class ResetsTest {
     }
 
     private static void crewIsFreeAgain() {
-        KeylessHall x = dirtyChain();
+        Hall x = dirtyChain();
         x.reset(0, 0, true);
         x.pass(17);
         x.come(0);
@@ -210,7 +210,7 @@ public final class ResetsTest {
     }
 
     private static void forgetOnTheWay() {
-        KeylessHall x = dirtyChain();
+        Hall x = dirtyChain();
         x.reset(0, 0, false);
         x.pass(2);
         Due.is("forget", 2, x.forget(0));
@@ -223,7 +223,7 @@ public final class ResetsTest {
     }
 
     private static void forgetLastUnchecked() {
-        KeylessHall x = dirtyChain();
+        Hall x = dirtyChain();
         x.reset(0, 0, false);
         Due.is("forget", 2, x.forget(0));
         Due.is("forget", 1, x.forget(0));
@@ -236,7 +236,7 @@ public final class ResetsTest {
     }
 
     private static void checkFindsForgotten() {
-        KeylessHall x = dirtyChain();
+        Hall x = dirtyChain();
         x.reset(0, 0, true);
         x.forget(0);
         x.pass(4);
@@ -257,7 +257,7 @@ public final class ResetsTest {
     }
 
     private static void checkFindsForgottenAgain() {
-        KeylessHall x = new KeylessHall();
+        Hall x = new Hall();
         x.room(2);
         x.puzzle(0, 2, 1, NONE, 6);
         x.come(0);
@@ -274,7 +274,7 @@ public final class ResetsTest {
     }
 
     private static void forgetRefusals() {
-        KeylessHall x = dirtyChain();
+        Hall x = dirtyChain();
         Due.noSuch("forget(-1)", () -> x.forget(-1));
         Due.noSuch("forget(3)", () -> x.forget(3));
         Due.notNow("forget without a room", () -> x.forget(0));
@@ -286,7 +286,7 @@ public final class ResetsTest {
     }
 
     private static void forgottenIsKeptUntilTheNextReset() {
-        KeylessHall x = dirtyChain();
+        Hall x = dirtyChain();
         x.reset(0, 0, false);
         x.pass(5);
         x.forget(0);
@@ -306,7 +306,7 @@ public final class ResetsTest {
     }
 
     private static void severalCrewMembers() {
-        KeylessHall x = new KeylessHall();
+        Hall x = new Hall();
         for (int k = 0; k < 4; k++) {
             x.room(2);
             x.puzzle(k, 2, 1, NONE, k + 2);
@@ -332,7 +332,7 @@ public final class ResetsTest {
     }
 
     private static void crewRefusals() {
-        KeylessHall x = new KeylessHall();
+        Hall x = new Hall();
         Due.noSuch("crew(-1, 0)", () -> x.crew(-1, 0));
         Due.noSuch("crew(3, 9)", () -> x.crew(3, 9));
         Due.outOfRange("crew(0, -1)", () -> x.crew(0, -1));

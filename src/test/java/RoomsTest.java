@@ -21,7 +21,7 @@ public final class RoomsTest {
     }
 
     private static void newObject() {
-        KeylessHall x = new KeylessHall();
+        Hall x = new Hall();
         Due.is("minute of a new object", 0, x.minute());
         Due.noSuch("no rooms at first", () -> x.state(0, 0));
         Due.noSuch("no groups at first", () -> x.group(0, 0));
@@ -37,7 +37,7 @@ public final class RoomsTest {
     }
 
     private static void room() {
-        KeylessHall x = new KeylessHall();
+        Hall x = new Hall();
         Due.outOfRange("room(-1)", () -> x.room(-1));
         Due.outOfRange("room(4096)", () -> x.room(4096));
         Due.outOfRange("room(least)", () -> x.room(Integer.MIN_VALUE));
@@ -51,7 +51,7 @@ public final class RoomsTest {
     }
 
     private static void puzzle() {
-        KeylessHall x = new KeylessHall();
+        Hall x = new Hall();
         x.room(2);
         x.room(2);
         Due.is("first puzzle", 0, x.puzzle(0, 0, 4095, NONE, 1));
@@ -65,7 +65,7 @@ public final class RoomsTest {
     }
 
     private static void puzzleRefusals() {
-        KeylessHall x = new KeylessHall();
+        Hall x = new Hall();
         Due.noSuch("puzzle without rooms", () -> x.puzzle(0, 2, 4, NONE, 1));
         x.room(2);
         Due.noSuch("puzzle of room -1", () -> x.puzzle(-1, 2, 4, NONE, 1));
@@ -86,7 +86,7 @@ public final class RoomsTest {
     }
 
     private static void puzzleOnlyIntoReadyRoom() {
-        KeylessHall x = new KeylessHall();
+        Hall x = new Hall();
         x.room(2);
         x.puzzle(0, 2, 4, NONE, 5);
         x.puzzle(0, 4, 1, NONE, 5);
@@ -103,7 +103,7 @@ public final class RoomsTest {
     }
 
     private static void propsThatBreak() {
-        KeylessHall x = new KeylessHall();
+        Hall x = new Hall();
         Due.noSuch("prop -1", () -> x.prop(-1, true));
         Due.noSuch("prop 8", () -> x.prop(8, false));
         Due.is("a prop of no puzzle breaks", 0, x.prop(7, true));
@@ -131,7 +131,7 @@ public final class RoomsTest {
     }
 
     private static void had() {
-        KeylessHall x = new KeylessHall();
+        Hall x = new Hall();
         x.room(2);
         x.puzzle(0, 8, 16, NONE, 1);
         x.puzzle(0, 4, 8, 5, 1);
@@ -154,7 +154,7 @@ public final class RoomsTest {
     }
 
     private static void canBeLeft() {
-        KeylessHall x = new KeylessHall();
+        Hall x = new Hall();
         Due.noSuch("canBeLeft of no room", () -> x.canBeLeft(0));
         x.room(1);
         Due.holds("a room without puzzles cannot be left", !x.canBeLeft(0));
@@ -175,13 +175,13 @@ public final class RoomsTest {
         Due.noSuch("canBeLeft(2)", () -> x.canBeLeft(2));
     }
 
-    private static void ordersAre(KeylessHall x, int room, int want) {
+    private static void ordersAre(Hall x, int room, int want) {
         Due.is("orders(" + room + ")", want, x.orders(room));
         Due.is("ordersAnew(" + room + ")", want, x.ordersAnew(room));
     }
 
     private static void orders() {
-        KeylessHall x = new KeylessHall();
+        Hall x = new Hall();
         Due.noSuch("orders of no room", () -> x.orders(0));
         Due.noSuch("ordersAnew of no room", () -> x.ordersAnew(0));
         x.room(1);
@@ -208,7 +208,7 @@ public final class RoomsTest {
     }
 
     private static void ordersWithManyPuzzles() {
-        KeylessHall x = new KeylessHall();
+        Hall x = new Hall();
         x.room(0);
         for (int k = 0; k < 7; k++) {
             x.puzzle(0, 0, 2, NONE, 1);
@@ -232,7 +232,7 @@ public final class RoomsTest {
     }
 
     private static void stateOfRoom() {
-        KeylessHall x = new KeylessHall();
+        Hall x = new Hall();
         Due.noSuch("state of no room", () -> x.state(0, 9));
         x.room(2);
         Due.is("a room is READY at first", KeylessHall.READY, x.state(0, 0));
