@@ -29,9 +29,9 @@ final class Asked {
         return asked.text.toString();
     }
 
-    /** Calls the house in a fixed way, so that what it hides comes out, and tells what it answers. */
-    static String later(House house) {
-        Asked asked = new Asked(house, Integer.MAX_VALUE);
+    /** Calls the house in a fixed way, so that what it hides comes out, and tells what it answers; in so many calls. */
+    static String later(House house, int calls) {
+        Asked asked = new Asked(house, calls);
         asked.goOn();
         asked.askAll();
         return asked.text.toString();
@@ -102,31 +102,32 @@ final class Asked {
     }
 
     private void goOn() {
+        int[] got = new int[1];
         for (int k = 0; k < 3; k++) {
             int crew = k;
             ask(() -> house.forget(crew));
         }
         for (int k = 0; k < 4; k++) {
             int room = k;
-            ask(() -> house.state(room, 3));
+            ask(() -> got[0] = house.state(room, 3));
             if (isRefused) {
                 break;
             }
-            ask(() -> house.hint(house.state(room, 3)));
-            ask(() -> house.solve(house.state(room, 3), 1));
-            ask(() -> house.hint(house.state(room, 3)));
+            ask(() -> house.hint(got[0]));
+            ask(() -> house.solve(got[0], 1));
+            ask(() -> house.hint(got[0]));
             ask(() -> {
                 house.reset(room, room % 3, true);
                 return 0;
             });
             ask(() -> house.come(room));
         }
-        ask(() -> house.pass(14));
+        ask(() -> got[0] = house.pass(14));
         askAll();
         for (int k = 0; k < 4; k++) {
             int room = k;
             ask(() -> house.come(room));
-            ask(() -> house.book(room, house.minute() + 90));
+            ask(() -> house.book(room, got[0] + 90));
         }
         ask(() -> house.room(2));
         ask(() -> house.pass(61));

@@ -5,7 +5,7 @@
 public final class BookingBoundsTest {
     private static final int NONE = KeylessHall.NONE;
     private static final int OPEN = KeylessHall.OPEN, USED = KeylessHall.USED, GONE = KeylessHall.GONE;
-    /** So far apart bookings begin in a room without puzzles, of one with a puzzle of 10 minutes, and of the longest. */
+    /** How many puzzles of 10 minutes a room has, and how far apart its bookings begin at least. */
     private static final int[] PUZZLES = {0, 1, 8};
     private static final int[] DISTANCES = {65, 75, 145};
 
@@ -168,7 +168,7 @@ public final class BookingBoundsTest {
         isNoBooking(x, 2);
     }
 
-    /** "between the end of a booking, 60 minutes behind its minute, and the next one [..] has to be its gap at least" */
+    /** "between the end of a booking, 60 minutes behind its minute, and the next one [..] its gap at least" */
     private static void gapBehindABooking() {
         for (int k = 0; k < PUZZLES.length; k++) {
             int far = DISTANCES[k];

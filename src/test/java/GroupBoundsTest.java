@@ -402,7 +402,7 @@ public final class GroupBoundsTest {
 
     // ---- the hour
 
-    /** "It has 60 minutes [..]: as soon as as many as that have passed since it came, [..] it leaves as one that LOST" */
+    /** "It has 60 minutes [..]: as soon as as many as that have passed [..], it leaves as one that LOST" */
     private static void theHour() {
         for (int came : new int[] {0, 1, 599}) {
             Hall x = new Hall();

@@ -53,7 +53,8 @@ final class Refused {
         Due.is("all that is asked behind " + what, before, Asked.all(refused));
         Hall refusedToo = hall();
         thrown(call, refusedToo);
-        Due.is("what comes behind " + what, Asked.later(hall()), Asked.later(refusedToo));
+        int calls = refusedToo.callsLeft();
+        Due.is("what comes behind " + what, Asked.later(hall(), calls), Asked.later(refusedToo, calls));
         return this;
     }
 }

@@ -622,7 +622,7 @@ public final class ResetBoundsTest {
 
     // ---- promise 22
 
-    /** "`what`: 0 the room [..], 1 the puzzle, 2 in how many minutes that, or the check, ends; NONE for each that is not so" */
+    /** "2 in how many minutes that, or the check, ends; NONE for each that is not so" */
     private static void whatOfACrewMember() {
         Hall x = new Hall();
         x.room(2);
