@@ -1,45 +1,39 @@
-import java.lang.reflect.InvocationTargetException;
 import java.lang.reflect.Method;
+import java.lang.reflect.Modifier;
 import java.util.ArrayList;
 import java.util.List;
 import java.util.Map;
 import java.util.TreeMap;
 
-/** All promises: long runs of calls on the class and on NaiveHall, with the same answers and states. */
+/**
+ * All promises: long runs of calls on the class and on NaiveHall, with the same answers. At some points of a run its
+ * calls are made once more of a new object, and all that can be asked then is held against NaiveHall too.
+ */
 public final class ModelTest {
-    private static final int RUNS = 600;
-    private static final int CALLS = 512;
+    private static final int RUNS = 800;
+    private static final int POINTS = 12;
+    private static final int MOST_QUESTIONS = 250;
 
-    private final KeylessHall hall = new KeylessHall();
+    private static final Map<String, Integer> ANSWERED = new TreeMap<>();
+
+    private final Hall hall = new Hall();
     private final NaiveHall naive = new NaiveHall();
-    private final List<String> told = new ArrayList<>();
+    private final List<NamedCall> made = new ArrayList<>();
+    private final int run;
     private long seed;
     private boolean isWrong;
 
-    private static final Map<String, Method> HALL = methods(KeylessHall.class);
-    private static final Map<String, Method> NAIVE = methods(NaiveHall.class);
-    private static final Map<String, Integer> ANSWERED = new TreeMap<>();
-
     private ModelTest(int run) {
+        this.run = run;
         seed = run * 7919L + 17;
     }
 
     public static void main(String[] args) {
         for (int run = 0; run < RUNS; run++) {
-            new ModelTest(run).run(run);
+            new ModelTest(run).run();
         }
         everyKindOfAnswerCame();
         Due.end("ModelTest");
-    }
-
-    private static Map<String, Method> methods(Class<?> of) {
-        Map<String, Method> found = new TreeMap<>();
-        for (Method method : of.getDeclaredMethods()) {
-            if (java.lang.reflect.Modifier.isPublic(method.getModifiers())) {
-                found.put(method.getName(), method);
-            }
-        }
-        return found;
     }
 
     /** A number from 0 to below; always the same row of numbers for the same run. */
@@ -52,19 +46,36 @@ public final class ModelTest {
         return any(of) == 0;
     }
 
-    private void run(int run) {
-        build(run);
-        for (int i = told.size(); i < CALLS && !isWrong; i++) {
+    private void run() {
+        build();
+        while (hall.callsLeft() > 0 && !isWrong) {
             if (oneIn(12)) {
                 strangeCall();
             } else {
                 likelyCall();
             }
+            if (oneIn(Hall.MOST_CALLS / POINTS)) {
+                askAllOnceMore();
+            }
         }
-        Due.holds("run " + run + ": " + (isWrong ? told : ""), !isWrong);
+        Due.holds("run " + run, !isWrong);
     }
 
-    private void build(int run) {
+    /** On a new object, so that the one of the run is not called more often than it may be. */
+    private void askAllOnceMore() {
+        Hall again = new Hall();
+        for (NamedCall call : made) {
+            call.answerOf(again);
+        }
+        int questions = Math.min(MOST_QUESTIONS, again.callsLeft());
+        String want = Asked.upTo(naive, questions);
+        String got = Asked.upTo(again, questions);
+        if (!got.equals(want)) {
+            wrong("all that is asked", want, got);
+        }
+    }
+
+    private void build() {
         if (run % 8 == 0) {
             // So that some runs meet the last minutes of the house.
             for (int k = 0; k < 8; k++) {
@@ -112,7 +123,14 @@ public final class ModelTest {
                 call(oneIn(2) ? "orders" : "ordersAnew", room);
                 break;
             case 13:
-                call(oneIn(2) ? "canBeLeft" : "had", room, any(4096));
+                if (oneIn(2)) {
+                    call("canBeLeft", room);
+                } else {
+                    call("had", room, any(4096));
+                }
+                break;
+            case 14: case 15: case 16:
+                likelyQuestion(room);
                 break;
             default:
                 fittingCall(any(Math.max(1, count("state"))));
@@ -122,8 +140,12 @@ public final class ModelTest {
 
     /** A call that a room in its state mostly allows. */
     private void fittingCall(int room) {
-        if (count("state") == 0 || oneIn(10)) {
-            call(oneIn(2) ? "reset" : "come", room, any(3), oneIn(2));
+        if (count("state") == 0 || oneIn(20)) {
+            call("come", room);
+            return;
+        }
+        if (oneIn(20)) {
+            call("reset", room, any(3), oneIn(2));
             return;
         }
         int group = naive.state(room, 3);
@@ -134,8 +156,10 @@ public final class ModelTest {
             case KeylessHall.PLAYED:
                 if (oneIn(12)) {
                     call("giveUp", group);
+                } else if (oneIn(4)) {
+                    call("hint", group);
                 } else {
-                    call(oneIn(4) ? "hint" : "solve", group, any(8));
+                    call("solve", group, any(8));
                 }
                 break;
             case KeylessHall.DIRTY:
@@ -151,8 +175,32 @@ public final class ModelTest {
         }
     }
 
+    private void likelyQuestion(int room) {
+        switch (any(5)) {
+            case 0:
+                call("minute");
+                break;
+            case 1:
+                call("state", room, any(5));
+                break;
+            case 2:
+                call("group", any(Math.max(1, count("group"))), any(6));
+                break;
+            case 3:
+                call("crew", any(3), any(3));
+                break;
+            default:
+                call("booking", any(Math.max(1, count("booking"))), any(4));
+                break;
+        }
+    }
+
     private int lately(int below) {
         return Math.min(any(below), any(below));
+    }
+
+    private Object strangeOrSmall() {
+        return oneIn(2) ? any(3) : strangeNumber();
     }
 
     private int strangeNumber() {
@@ -175,102 +223,58 @@ public final class ModelTest {
     }
 
     private void strangeCall() {
-        List<String> names = new ArrayList<>(HALL.keySet());
+        List<String> names = new ArrayList<>(NamedCall.METHODS.keySet());
         String name = names.get(any(names.size()));
         if (name.equals("pass") && oneIn(2)) {
             return;
         }
-        int[] numbers = new int[5];
-        for (int i = 0; i < numbers.length; i++) {
-            numbers[i] = oneIn(2) ? any(3) : strangeNumber();
-        }
-        call(name, numbers[0], numbers[1], numbers[2], numbers[3], numbers[4]);
-    }
-
-    private void call(String name, boolean last, int... numbers) {
-        Object[] arguments = new Object[HALL.get(name).getParameterCount()];
+        Class<?>[] types = NamedCall.METHODS.get(name).getParameterTypes();
+        Object[] arguments = new Object[types.length];
         for (int i = 0; i < arguments.length; i++) {
-            boolean isInt = HALL.get(name).getParameterTypes()[i] == int.class;
-            arguments[i] = isInt ? (Object) numbers[i] : (Object) last;
+            arguments[i] = types[i] == int.class ? strangeOrSmall() : (Object) oneIn(2);
         }
-        String before = snapshot(HALL, hall);
-        String want = answer(NAIVE.get(name), naive, arguments);
-        String got = answer(HALL.get(name), hall, arguments);
-        told.add(name + java.util.Arrays.toString(arguments) + " = " + got);
+        call(name, arguments);
+    }
+
+    private void call(String name, Object... arguments) {
+        if (hall.callsLeft() == 0 || isWrong) {
+            return;
+        }
+        NamedCall call = new NamedCall(name, arguments);
+        made.add(call);
+        String want = call.answerOf(naive);
+        String got = call.answerOf(hall);
         ANSWERED.merge(name + (got.startsWith("throws") ? " " + got : ""), 1, Integer::sum);
-        String after = snapshot(HALL, hall);
         if (!got.equals(want)) {
-            wrong("due is " + want);
-        } else if (!after.equals(snapshot(NAIVE, naive))) {
-            wrong("state " + after + ", due is " + snapshot(NAIVE, naive));
-        } else if (got.startsWith("throws") && !after.equals(before)) {
-            wrong("a call that throws changed " + before + " into " + after);
+            wrong("the last call", want, got);
         }
     }
 
-    private void call(String name, int... numbers) {
-        call(name, numbers.length > 3 && numbers[3] % 2 == 0, numbers);
-    }
-
-    private void call(String name, int first, boolean last) {
-        call(name, last, first);
-    }
-
-    private void call(String name, int first, int second, boolean last) {
-        call(name, last, first, second);
-    }
-
-    private void wrong(String how) {
+    private void wrong(String what, String want, String got) {
         isWrong = true;
-        told.add(how);
-    }
-
-    private static String answer(Method method, Object of, Object... arguments) {
-        try {
-            return String.valueOf(method.invoke(of, arguments));
-        } catch (InvocationTargetException e) {
-            if (e.getCause() instanceof Error) {
-                throw (Error) e.getCause();
-            }
-            return "throws." + e.getCause().getClass().getSimpleName();
-        } catch (IllegalAccessException e) {
-            throw new AssertionError(e);
-        }
+        System.out.println("run " + run + ", behind " + made);
+        Due.is(what, want, got);
     }
 
     private int count(String of) {
         int count = 0;
-        while (!answer(NAIVE.get(of), naive, count, 0).startsWith("throws")) {
+        while (!new NamedCall(of, count, 0).answerOf(naive).startsWith("throws")) {
             count++;
         }
         return count;
     }
 
-    /** All that can be asked, of all that there is. */
-    private static String snapshot(Map<String, Method> methods, Object of) {
-        StringBuilder text = new StringBuilder(answer(methods.get("minute"), of));
-        String[] names = {"state", "group", "crew", "booking"};
-        int[] whats = {5, 6, 3, 4};
-        for (int i = 0; i < names.length; i++) {
-            text.append(' ').append(names[i]);
-            String first = answer(methods.get(names[i]), of, 0, 0);
-            for (int number = 0; !first.startsWith("throws"); number++) {
-                text.append(' ').append(first);
-                for (int what = 1; what < whats[i]; what++) {
-                    text.append(',').append(answer(methods.get(names[i]), of, number, what));
-                }
-                first = answer(methods.get(names[i]), of, number + 1, 0);
-            }
-        }
-        return text.toString();
-    }
-
     /** Runs in which a call never succeeds, or an exception of the face never comes, would tell too little. */
     private static void everyKindOfAnswerCame() {
-        for (Map.Entry<String, Method> entry : HALL.entrySet()) {
+        for (Map.Entry<String, Method> entry : NamedCall.METHODS.entrySet()) {
             Due.holds(entry.getKey() + " answered", ANSWERED.getOrDefault(entry.getKey(), 0) > 100);
-            for (Class<?> thrown : entry.getValue().getExceptionTypes()) {
-                String kind = entry.getKey() + " throws." + thrown.getSimpleName();
+        }
+        for (Method method : KeylessHall.class.getDeclaredMethods()) {
+            if (!Modifier.isPublic(method.getModifiers())) {
+                continue;
+            }
+            for (Class<?> thrown : method.getExceptionTypes()) {
+                String kind = method.getName() + " throws." + thrown.getSimpleName();
                 Due.holds(kind, ANSWERED.getOrDefault(kind, 0) > 0);
             }
         }

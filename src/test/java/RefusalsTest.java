@@ -62,7 +62,7 @@ public final class RefusalsTest {
     }
 
     /** A room, a group and a booking of each kind, and something forgotten, cancelled, hinted and broken. */
-    private static void mixed(House x) {
+    static void mixed(House x) {
         chain(x, 8, 0);
         for (int room = 1; room < ROOMS; room++) {
             chain(x, 3, room);
@@ -115,14 +115,14 @@ public final class RefusalsTest {
     }
 
     /** The mixed house, a while later, with the crew member 1 at the check of the RESETTING room. */
-    private static void checking(House x) {
+    static void checking(House x) {
         mixed(x);
         x.pass(3);
         Due.is("how the room is", RESETTING, x.crew(RESETS, 0));
         Due.is("the puzzle at the check", NONE, x.crew(RESETS, 1));
     }
 
-    private static void thirtyGroups(House x) {
+    static void thirtyGroups(House x) {
         x.room(1);
         x.puzzle(0, 0, 2, NONE, 1);
         for (int group = 0; group < 30; group++) {
@@ -132,7 +132,7 @@ public final class RefusalsTest {
     }
 
     /** The bookings of a room with a gap of 6 minutes, at 100, 166 and so on, up to 2014. */
-    private static void thirtyBookings(House x) {
+    static void thirtyBookings(House x) {
         chain(x, 1, 0);
         x.pass(50);
         for (int booking = 0; booking < 30; booking++) {
